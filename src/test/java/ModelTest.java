@@ -5,7 +5,7 @@ import java.util.Random;
 /** Long runs of calls, ordinary and wrong ones, each answered by the class and by the model. */
 public final class ModelTest {
     private static final int RUNS = 400;
-    private static final int CALLS = 500;
+    private static final int CALLS = 380;
     private static final int LOAD = 0;
     private static final int NO_RANK = -1;
     private static final int[] FAR = {Integer.MIN_VALUE, -21, -2, 12, 13, 20, 100, Integer.MAX_VALUE};
