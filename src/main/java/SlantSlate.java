@@ -22,16 +22,6 @@ public final class SlantSlate {
     private static final int KINDS = 7;
     /** The letters of the kinds, in their order. */
     private static final String LETTERS = "nvadpct";
-    /** For each kind the kinds that a word right behind it can have, as a mask; a clause begins as behind an opener. */
-    private static final int[] FOLLOWERS = {
-        1 << VERB | 1 << ADVERB | 1 << PREPOSITION | 1 << JOINER,
-        1 << NOUN | 1 << ADJECTIVE | 1 << ADVERB | 1 << PREPOSITION | 1 << OPENER,
-        1 << NOUN | 1 << ADJECTIVE,
-        1 << ADVERB | 1 << PREPOSITION,
-        1 << NOUN | 1 << ADJECTIVE,
-        1 << NOUN | 1 << ADJECTIVE,
-        1 << NOUN | 1 << ADJECTIVE,
-    };
     /** The kinds that a sentence can end with, as a mask. */
     private static final int ENDINGS = 1 << NOUN | 1 << VERB | 1 << ADVERB;
 
@@ -49,7 +39,7 @@ public final class SlantSlate {
     private static final int LEVEL_SHIFT = 20;
     private static final int DIGEST_START = 3407;
     private static final int DIGEST_READINGS = 10;
-    private static final double TWO_TO_52 = 4503599627370496.0;
+    private static final long TWO_TO_52 = 1L << 52;
 
     private final State state = new State();
     private final Readings readings = new Readings();
@@ -524,16 +514,17 @@ public final class SlantSlate {
     }
 
     private double share() {
-        if (state.size() == 0) {
+        int words = state.size();
+        if (words == 0) {
             return 1.0;
         }
         int sure = 0;
-        for (int word = 0; word < state.size(); word++) {
+        for (int word = 0; word < words; word++) {
             if (headsLeft(word) == 1) {
                 sure++;
             }
         }
-        return (double) sure / state.size();
+        return (double) sure / words;
     }
 
     private int kindsToAdd() {
@@ -595,7 +586,7 @@ public final class SlantSlate {
             scaled *= 2.0;
             exponent--;
         }
-        return (exponent << 52) + (long) ((scaled - 1.0) * TWO_TO_52);
+        return (exponent << 52) + (long) ((scaled - 1.0) * (double) TWO_TO_52);
     }
 
     /** All that a snapshot or a saved state holds. */
@@ -753,6 +744,7 @@ public final class SlantSlate {
             }
         }
 
+        /** Ahead of the first word a clause begins, as behind an opener. */
         private int kindAt(int word) {
             return word >= 0 && word < size && word < kinds.length ? kinds[word] : OPENER;
         }
@@ -772,7 +764,7 @@ public final class SlantSlate {
             int opener = NONE;
             int subject = NONE;
             for (int word = 0; word < size; word++) {
-                if (!canFollow(kindAt(word - 1), kindAt(word))) {
+                if (!inMask(followersOf(kindAt(word - 1)), kindAt(word))) {
                     return false;
                 }
                 switch (kindAt(word)) {
@@ -811,8 +803,14 @@ public final class SlantSlate {
             return kindAt(before) == OPENER;
         }
 
-        private static boolean canFollow(int kind, int follower) {
-            return kind >= 0 && kind < FOLLOWERS.length && inMask(FOLLOWERS[kind], follower);
+        /** The kinds that a word right behind one can have, as a mask; a clause begins as behind an opener. */
+        private static int followersOf(int kind) {
+            switch (kind) {
+                case NOUN: return 1 << VERB | 1 << ADVERB | 1 << PREPOSITION | 1 << JOINER;
+                case VERB: return 1 << NOUN | 1 << ADJECTIVE | 1 << ADVERB | 1 << PREPOSITION | 1 << OPENER;
+                case ADVERB: return 1 << ADVERB | 1 << PREPOSITION;
+                default: return 1 << NOUN | 1 << ADJECTIVE;
+            }
         }
 
         private static boolean inMask(int mask, int kind) {
@@ -894,7 +892,7 @@ public final class SlantSlate {
         private final int[] cells = new int[SIDE * SIDE];
 
         int at(int from, int to) {
-            return isCell(from, to) ? cells[from * SIDE + to] : 0;
+            return from >= 0 && from < SIDE && to >= 0 && to < SIDE ? cells[from * SIDE + to] : 0;
         }
 
         /** For what may be missing: the empty part is one way. */
@@ -903,13 +901,9 @@ public final class SlantSlate {
         }
 
         void put(int from, int to, int ways) {
-            if (isCell(from, to)) {
+            if (from >= 0 && from < SIDE && to >= 0 && to < SIDE) {
                 cells[from * SIDE + to] = ways;
             }
-        }
-
-        private static boolean isCell(int from, int to) {
-            return from >= 0 && from < SIDE && to >= 0 && to < SIDE;
         }
     }
 
@@ -927,6 +921,8 @@ public final class SlantSlate {
         private final Grid hangings = new Grid();
         /** One or more phrases in a row. */
         private final Grid phraseRows = new Grid();
+        /** An object, hangings, or both in this order. */
+        private final Grid verbTails = new Grid();
 
         int ways(int from, int to, int what) {
             if (from >= to) {
@@ -951,6 +947,7 @@ public final class SlantSlate {
                     phraseRows.put(from, to, phraseRowWays(from, to));
                     hangings.put(from, to, hangingWays(state, from, to));
                     clauses.put(from, to, clauseWays(state, from, to));
+                    verbTails.put(from, to, verbTailWays(state, from, to));
                 }
             }
         }
@@ -993,14 +990,14 @@ public final class SlantSlate {
             int ways = 0;
             for (int verb = from + 1; verb < to; verb++) {
                 if (state.kindAt(verb) == VERB) {
-                    ways += groups.at(from, verb) * behindVerbWays(state, verb + 1, to);
+                    ways += groups.at(from, verb) * verbTails.atOrEmpty(verb + 1, to);
                 }
             }
             return ways;
         }
 
-        private int behindVerbWays(State state, int from, int to) {
-            int ways = hangings.atOrEmpty(from, to);
+        private int verbTailWays(State state, int from, int to) {
+            int ways = hangings.at(from, to);
             for (int middle = from + 1; middle <= to; middle++) {
                 int object = groups.at(from, middle);
                 if (state.kindAt(from) == OPENER) {
