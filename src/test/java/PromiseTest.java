@@ -20,6 +20,7 @@ public final class PromiseTest {
         clearing();
         firstErrors();
         loading();
+        readingsByTheRules();
         loadingRefused();
         writing();
         keeping();
@@ -252,6 +253,7 @@ public final class PromiseTest {
         SlantSlate slate = slate("nvtnvd");
         same("8: the flattest", 1, slate.flatten());
         same("8: drawn", 1, slate.count(4));
+        same("8: its heads", "1 -1 1 4 2 4", row(slate, 1));
         same("8: once more", 1, slate.flatten());
         same("8: saved", 3, slate.count(8));
         slate.undo();
@@ -332,7 +334,40 @@ public final class PromiseTest {
         same("12: the buffer is not", 0, slate.clearBuffer());
         same("12: twelve words", 42, loadInto(slate, "nvnpnpnpnpnd"));
         same("12: the first one is drawn", 0, slate.count(4));
+        same("12: told by parts", 42, slate.count(2));
         same("12: all kinds", "nvadpct", words(slate("nvadpct")));
+    }
+
+    /** How many readings, and the heads of each. */
+    private static String readings(String words) {
+        SlantSlate slate = slate(words);
+        StringBuilder text = new StringBuilder().append(slate.count(1));
+        for (int rank = 0; rank < slate.count(1); rank++) {
+            slate.draw(rank);
+            text.append(" | ").append(row(slate, 1));
+        }
+        return text.toString();
+    }
+
+    private static void readingsByTheRules() {
+        same("12: a verb", "0", readings("v"));
+        same("12: an object ahead of the hangings", "0", readings("nvdn"));
+        same("12: no adverb in a group", "0", readings("ndv"));
+        same("12: an adjective needs its noun", "0", readings("nva"));
+        same("12: an opener needs a clause", "0", readings("nvtn"));
+        same("12: no opener as a subject", "0", readings("tnvv"));
+        same("12: one joiner in a group", "0", readings("nvncncn"));
+        same("12: two verbs", "0", readings("nvv"));
+        same("12: two objects", "0", readings("nvnan"));
+        same("12: an opener behind an object", "0", readings("nvntnv"));
+        same("12: a first name is closed by the joiner", "2 | 1 -1 1 2 3 1 5 | 1 -1 1 2 3 4 5", readings("nvncnpn"));
+        same("12: a joiner within and behind a phrase", "3 | 1 -1 1 1 3 4 5 | 1 -1 1 2 3 2 5 | 1 -1 1 2 3 4 5",
+            readings("nvnpncn"));
+        same("12: a joiner behind a phrase", "2 | 5 0 1 0 3 -1 | 5 0 1 2 3 -1", readings("npncnv"));
+        same("12: groups in phrases", "3 | 7 0 1 0 3 4 5 -1 | 7 0 1 2 3 0 5 -1 | 7 0 1 2 3 4 5 -1",
+            readings("npncnpnv"));
+        same("12: a clause in a clause in a clause", "3 | 1 -1 1 4 2 4 7 5 1 | 1 -1 1 4 2 4 7 5 4 | 1 -1 1 4 2 4 7 5 7",
+            readings("nvtnvtnvd"));
     }
 
     private static void loadingRefused() {
@@ -532,6 +567,8 @@ public final class PromiseTest {
         Check.refused("18: what -1", slate, ARGUMENT, () -> slate.readingOf(0, -1));
         Check.refused("18: the rank first", slate, RANGE, () -> slate.readingOf(1, 6));
         same("18: looks change nothing", 0, slate.count(4));
+        SlantSlate subject = slate("anpnpnpnv");
+        same("18: a subject that holds the most", "3 1 4 0 4 0", reading(subject, 0));
         SlantSlate without = slate("n");
         Check.refused("18: without a reading", without, RANGE, () -> without.readingOf(0, 0));
     }
