@@ -937,7 +937,7 @@ public final class SlantSlate {
             }
         }
 
-        /** Each part is told behind all that lie in it and begin with a later word, and the shorter ones with its own. */
+        /** From the last word on: a part is told from those within it, so they must be told ahead of it. */
         void tell(State state) {
             for (int from = state.size() - 1; from >= 0; from--) {
                 for (int to = from + 1; to <= state.size(); to++) {

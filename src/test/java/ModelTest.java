@@ -107,7 +107,8 @@ public final class ModelTest {
         }
         int asked = due;
         if (call == 3) {
-            same(told + "fix(" + word + ", " + asked + ")", () -> model.fix(word, asked), () -> slate.fix(word, asked));
+            same(told + "fix(" + word + ", " + asked + ")",
+                () -> model.fix(word, asked), () -> slate.fix(word, asked));
         } else {
             same(told + "ifFixed(" + word + ", " + asked + ")",
                 () -> model.ifFixed(word, asked), () -> slate.ifFixed(word, asked));
@@ -117,7 +118,8 @@ public final class ModelTest {
     private void compareSentenceCall(String told, int call, int a, int b) {
         switch (call) {
             case 0: same(told + "add(" + a + ")", () -> model.add(a), () -> slate.add(a)); break;
-            case 1: same(told + "change(" + a + ", " + b + ")", () -> model.change(a, b), () -> slate.change(a, b)); break;
+            case 1: same(told + "change(" + a + ", " + b + ")",
+                () -> model.change(a, b), () -> slate.change(a, b)); break;
             case 2: same(told + "wipe(" + a + ")", () -> model.wipe(a), () -> slate.wipe(a)); break;
             case 4: same(told + "loosen(" + a + ")", () -> model.loosen(a), () -> slate.loosen(a)); break;
             case 5: same(told + "draw(" + a + ")", () -> model.draw(a), () -> slate.draw(a)); break;
@@ -140,7 +142,8 @@ public final class ModelTest {
     private void compareLook(String told, int call, int a, int b, int c) {
         switch (call) {
             case 15: same(told + "undo()", () -> model.undo(), () -> slate.undo()); break;
-            case 16: same(told + "wordOf(" + a + ", " + b + ")", () -> model.wordOf(a, b), () -> slate.wordOf(a, b)); break;
+            case 16: same(told + "wordOf(" + a + ", " + b + ")",
+                () -> model.wordOf(a, b), () -> slate.wordOf(a, b)); break;
             case 18: same(told + "readingOf(" + a + ", " + b + ")",
                 () -> model.readingOf(a, b), () -> slate.readingOf(a, b)); break;
             case 19: same(told + "part(" + a + ", " + b + ", " + c + ")",
