@@ -64,7 +64,7 @@ public final class SlantSlate {
 
     // ---- sentences
 
-    public int add(int kind) {
+    public int add(int kind) throws IllegalArgumentException, IllegalStateException {
         needKind(kind);
         if (state.size() >= MAX_WORDS) {
             throw new IllegalStateException("the sentence is full");
@@ -74,7 +74,7 @@ public final class SlantSlate {
         return beginSentence();
     }
 
-    public int change(int word, int kind) {
+    public int change(int word, int kind) throws IndexOutOfBoundsException, IllegalArgumentException {
         needWord(word);
         needKind(kind);
         saveState();
@@ -82,7 +82,7 @@ public final class SlantSlate {
         return beginSentence();
     }
 
-    public int wipe(int word) {
+    public int wipe(int word) throws IndexOutOfBoundsException {
         needWord(word);
         saveState();
         state.dropWord(word);
@@ -91,7 +91,7 @@ public final class SlantSlate {
 
     // ---- heads, drawings
 
-    public int fix(int word, int head) {
+    public int fix(int word, int head) throws IndexOutOfBoundsException, IllegalStateException {
         needWord(word);
         needHead(word, head);
         if (leftIf(word, head) == 0) {
@@ -102,14 +102,14 @@ public final class SlantSlate {
         return beginHeads();
     }
 
-    public int loosen(int word) {
+    public int loosen(int word) throws IndexOutOfBoundsException {
         needWord(word);
         saveState();
         state.setFixed(word, LOOSE);
         return beginHeads();
     }
 
-    public int draw(int rank) {
+    public int draw(int rank) throws IndexOutOfBoundsException {
         needReading(rank);
         saveState();
         state.setDrawn(rank);
@@ -117,7 +117,7 @@ public final class SlantSlate {
         return drawn.height();
     }
 
-    public int flatten() {
+    public int flatten() throws IllegalStateException {
         if (leftCount == 0) {
             throw new IllegalStateException("no reading to flatten");
         }
@@ -130,7 +130,7 @@ public final class SlantSlate {
 
     // ---- texts, snapshots
 
-    public int append(int code) {
+    public int append(int code) throws IllegalArgumentException, IllegalStateException {
         if (code < 33 || code > 126) {
             throw new IllegalArgumentException("not a character of the buffer");
         }
@@ -151,7 +151,7 @@ public final class SlantSlate {
         return errorIndex();
     }
 
-    public int load() {
+    public int load() throws IllegalArgumentException {
         if (bufferLength == 0 || errorIndex() < bufferLength) {
             throw new IllegalArgumentException("the buffer tells no sentence");
         }
@@ -164,7 +164,7 @@ public final class SlantSlate {
         return beginSentence();
     }
 
-    public int write() {
+    public int write() throws IllegalStateException {
         if (leftCount == 0) {
             throw new IllegalStateException("no reading to write");
         }
@@ -175,14 +175,14 @@ public final class SlantSlate {
         return bufferLength;
     }
 
-    public int keep(int slot) {
+    public int keep(int slot) throws IllegalArgumentException {
         needSlot(slot);
         slots.put(slot, state);
         slotFilled[slot] = true;
         return state.size();
     }
 
-    public int goBack(int slot) {
+    public int goBack(int slot) throws IllegalArgumentException, IllegalStateException {
         needSlot(slot);
         if (!slotFilled[slot]) {
             throw new IllegalStateException("no snapshot in the slot");
@@ -193,7 +193,7 @@ public final class SlantSlate {
         return state.size();
     }
 
-    public int undo() {
+    public int undo() throws IllegalStateException {
         if (savedCount == 0) {
             throw new IllegalStateException("no saved state");
         }
@@ -205,24 +205,24 @@ public final class SlantSlate {
 
     // ---- looks; nothing is changed
 
-    public int wordOf(int word, int what) {
+    public int wordOf(int word, int what) throws IndexOutOfBoundsException, IllegalArgumentException {
         needWord(word);
         needAsked(what, 7);
         return wordProperty(word, what);
     }
 
-    public int readingOf(int rank, int what) {
+    public int readingOf(int rank, int what) throws IndexOutOfBoundsException, IllegalArgumentException {
         needReading(rank);
         needAsked(what, 5);
         return readingProperty(rank, what);
     }
 
-    public int count(int what) {
+    public int count(int what) throws IllegalArgumentException {
         needAsked(what, 8);
         return number(what);
     }
 
-    public int part(int from, int to, int what) {
+    public int part(int from, int to, int what) throws IndexOutOfBoundsException, IllegalArgumentException {
         if (from < 0 || to <= from || to > state.size()) {
             throw new IndexOutOfBoundsException("no such part");
         }
@@ -232,7 +232,7 @@ public final class SlantSlate {
 
     // ---- what would be; nothing is changed
 
-    public int ifFixed(int word, int head) {
+    public int ifFixed(int word, int head) throws IndexOutOfBoundsException {
         needWord(word);
         needHead(word, head);
         return leftIf(word, head);
