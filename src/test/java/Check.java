@@ -1,7 +1,9 @@
 /** Counts the answers that are not due, and tells each of them. */
 final class Check {
+    private static int tests = 0;
     private static int asked = 0;
     private static int wrong = 0;
+    private static String heading = "";
 
     private Check() {
     }
@@ -11,11 +13,26 @@ final class Check {
         Object run();
     }
 
+    /** What is wrong in the body is told behind the name; a test that asks for nothing is wrong, too. */
+    static void test(String name, Runnable body) {
+        int askedBefore = asked;
+        heading = name + ": ";
+        tests++;
+        try {
+            body.run();
+        } catch (Throwable thrown) {
+            tell("it came to no end: " + thrown);
+        }
+        if (asked == askedBefore) {
+            tell("it asked for nothing");
+        }
+        heading = "";
+    }
+
     static void same(String what, Object due, Object got) {
         asked++;
         if (!due.equals(got)) {
-            wrong++;
-            System.out.println(what + ": due is " + due + ", answered was " + got);
+            tell(what + ": due is " + due + ", answered was " + got);
         }
     }
 
@@ -35,8 +52,14 @@ final class Check {
         same(what + " changes nothing", before, slate.digest());
     }
 
+    private static void tell(String text) {
+        wrong++;
+        System.out.println(heading + text);
+    }
+
     static void end(String name) {
-        System.out.println(name + ": " + asked + " answers, " + wrong + " wrong");
+        String told = tests == 0 ? "" : tests + " tests, ";
+        System.out.println(name + ": " + told + asked + " answers, " + wrong + " wrong");
         if (wrong > 0) {
             System.exit(1);
         }

@@ -1,11 +1,5 @@
 /** Each promise by answers that were worked out by hand: ordinary ones, the edges, and wrong inputs. */
-public final class PromiseTest {
-    private static final Class<?> RANGE = IndexOutOfBoundsException.class;
-    private static final Class<?> ARGUMENT = IllegalArgumentException.class;
-    private static final Class<?> STATE = IllegalStateException.class;
-    private static final int NONE = SlantSlate.NONE;
-    private static final String FULL = "nvaaaaaaaaan";
-
+public final class PromiseTest extends Slates {
     public static void main(String[] args) {
         newObject();
         adding();
@@ -41,47 +35,6 @@ public final class PromiseTest {
         shares();
         digests();
         Check.end("PromiseTest");
-    }
-
-    private static SlantSlate slate(String words) {
-        SlantSlate slate = new SlantSlate();
-        if (!words.isEmpty()) {
-            loadInto(slate, words);
-        }
-        return slate;
-    }
-
-    private static int loadInto(SlantSlate slate, String words) {
-        type(slate, words);
-        return slate.load();
-    }
-
-    private static void type(SlantSlate slate, String text) {
-        slate.clearBuffer();
-        for (char letter : text.toCharArray()) {
-            slate.append(letter);
-        }
-    }
-
-    private static String words(SlantSlate slate) {
-        StringBuilder text = new StringBuilder();
-        for (int word = 0; word < slate.count(0); word++) {
-            text.append("nvadpct".charAt(slate.wordOf(word, 0)));
-        }
-        return text.toString();
-    }
-
-    /** One property of all words, with a blank between any two. */
-    private static String row(SlantSlate slate, int what) {
-        StringBuilder text = new StringBuilder();
-        for (int word = 0; word < slate.count(0); word++) {
-            text.append(word == 0 ? "" : " ").append(slate.wordOf(word, what));
-        }
-        return text.toString();
-    }
-
-    private static void same(String what, Object due, Object got) {
-        Check.same(what, due, got);
     }
 
     private static void newObject() {
@@ -338,17 +291,6 @@ public final class PromiseTest {
         same("12: all kinds", "nvadpct", words(slate("nvadpct")));
     }
 
-    /** How many readings, and the heads of each. */
-    private static String readings(String words) {
-        SlantSlate slate = slate(words);
-        StringBuilder text = new StringBuilder().append(slate.count(1));
-        for (int rank = 0; rank < slate.count(1); rank++) {
-            slate.draw(rank);
-            text.append(" | ").append(row(slate, 1));
-        }
-        return text.toString();
-    }
-
     private static void readingsByTheRules() {
         same("12: a verb", "0", readings("v"));
         same("12: an object ahead of the hangings", "0", readings("nvdn"));
@@ -384,8 +326,8 @@ public final class PromiseTest {
 
     private static void writing() {
         for (String text : new String[] {"nv", "anvaanpnd", "npncnvtncnvn", "nvnpncnpn", "nvnpnpnpnpnd"}) {
-            SlantSlate slate = slate(text);
-            for (int rank = 0; rank < slate.count(3); rank++) {
+            for (int rank = slate(text).count(3) - 1; rank >= 0; rank--) {
+                SlantSlate slate = slate(text);
                 slate.draw(rank);
                 type(slate, "!!!");
                 int saved = slate.count(8);
@@ -543,14 +485,6 @@ public final class PromiseTest {
         same("17: heads without a reading", "0 0 0", row(slate, 7));
     }
 
-    private static String reading(SlantSlate slate, int rank) {
-        StringBuilder text = new StringBuilder();
-        for (int what = 0; what <= 5; what++) {
-            text.append(what == 0 ? "" : " ").append(slate.readingOf(rank, what));
-        }
-        return text.toString();
-    }
-
     private static void readingProperties() {
         SlantSlate slate = slate("ncnvtanvdpn");
         same("18: readings", 3, slate.count(3));
@@ -573,14 +507,6 @@ public final class PromiseTest {
         Check.refused("18: without a reading", without, RANGE, () -> without.readingOf(0, 0));
     }
 
-    private static String numbers(SlantSlate slate) {
-        StringBuilder text = new StringBuilder();
-        for (int what = 0; what <= 8; what++) {
-            text.append(what == 0 ? "" : " ").append(slate.count(what));
-        }
-        return text.toString();
-    }
-
     private static void counts() {
         SlantSlate slate = slate("nvnpnpn");
         same("19: at first", "7 5 5 5 0 0 2 3 1", numbers(slate));
@@ -592,14 +518,6 @@ public final class PromiseTest {
         same("19: without words", "0 0 0 0 -1 0 0 0 0", numbers(new SlantSlate()));
         Check.refused("19: what 9", slate, ARGUMENT, () -> slate.count(9));
         Check.refused("19: what -1", slate, ARGUMENT, () -> slate.count(-1));
-    }
-
-    private static String ways(SlantSlate slate, int from, int to) {
-        StringBuilder text = new StringBuilder();
-        for (int what = 0; what <= 4; what++) {
-            text.append(what == 0 ? "" : " ").append(slate.part(from, to, what));
-        }
-        return text.toString();
     }
 
     private static void partsOfASentence() {
@@ -733,24 +651,34 @@ public final class PromiseTest {
         return hash;
     }
 
+    private static SlantSlate kept(String text) {
+        SlantSlate slate = slate(text);
+        slate.keep(1);
+        type(slate, "nv~!");
+        return slate;
+    }
+
+    private static SlantSlate keptAndFixed(String text) {
+        SlantSlate slate = kept(text);
+        slate.keep(0);
+        if (slate.count(3) > 1) {
+            slate.draw(1);
+            slate.fix(slate.question(), slate.wordOf(slate.question(), 1));
+        }
+        return slate;
+    }
+
     private static void digests() {
         SlantSlate empty = new SlantSlate();
         long due = mixed(3407, 0, 0, 0, 0, -1, 0, 0, 0, 0, -1, 0, 0x3ff0000000000000L, 0, 0, 0);
         same("25: a new object", due, empty.digest());
         for (String text : new String[] {"nv", "vn", "nvnpn", "nvnpnpnpn", "nvnpnpnpnpnd", "nvtnvdd", "anvaanpncnd",
             "nvnpnpn", "nvpnpn", "npnpnpnvnpnd", "nvnpndnd", "nvddnpn", FULL}) {
-            SlantSlate slate = slate(text);
-            same("25: " + text, digestDue(slate, 0, 0, ""), slate.digest());
-            slate.keep(1);
-            type(slate, "nv~!");
-            same("25: " + text + " with a slot and a buffer", digestDue(slate, 0, 1, "nv~!"), slate.digest());
-            slate.keep(0);
-            if (slate.count(3) > 1) {
-                slate.draw(1);
-                slate.fix(slate.question(), slate.wordOf(slate.question(), 1));
-            }
-            same("25: " + text + " with a fixed head", digestDue(slate, 1, 1, "nv~!"), slate.digest());
-            same("25: once more", slate.digest(), slate.digest());
+            same("25: " + text, digestDue(slate(text), 0, 0, ""), slate(text).digest());
+            same("25: " + text + " with a slot and a buffer",
+                digestDue(kept(text), 0, 1, "nv~!"), kept(text).digest());
+            same("25: " + text + " with a fixed head",
+                digestDue(keptAndFixed(text), 1, 1, "nv~!"), keptAndFixed(text).digest());
         }
     }
 }

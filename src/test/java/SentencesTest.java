@@ -1,7 +1,7 @@
 import java.util.List;
 
 /** Sentences, many at a time: the readings told one by one, those told by parts, and the model's. */
-public final class SentencesTest {
+public final class SentencesTest extends Slates {
     private static final int ALL_UP_TO = 5;
     private static int most = 0;
     private static int standing = 0;
@@ -53,26 +53,22 @@ public final class SentencesTest {
         }
     }
 
+    /** Each reading on an object of its own: no object is used for more calls than are promised. */
     private static void compare(String words) {
-        SlantSlate slate = new SlantSlate();
-        for (char letter : words.toCharArray()) {
-            slate.append(letter);
-        }
-        slate.load();
+        SlantSlate counted = slate(words);
         List<Model.Reading> due = Model.readings(words);
         most = Math.max(most, due.size());
-        Check.same(words + " one by one", due.size(), slate.count(1));
-        Check.same(words + " by parts", due.size(), slate.count(2));
+        Check.same(words + " one by one", due.size(), counted.count(1));
+        Check.same(words + " by parts", due.size(), counted.count(2));
         for (int rank = 0; rank < due.size(); rank++) {
+            SlantSlate slate = slate(words);
             slate.draw(rank);
             for (int word = 0; word < words.length(); word++) {
                 Check.same(words + " reading " + rank + " head of " + word,
                     due.get(rank).head[word], slate.wordOf(word, 1));
-            }
-            slate.write();
-            for (int word = 0; word < words.length(); word++) {
                 Check.same(words + " read along the lines", word, slate.wordOf(word, 5));
             }
+            Check.same(words + " written", words.length(), slate.write());
         }
     }
 }
